@@ -8,6 +8,7 @@ public final class CouldTest {
         down();
         best();
         bestOrder();
+        bestDown();
         bestWrong();
         own();
         ownFirstWay();
@@ -138,8 +139,32 @@ public final class CouldTest {
         check.due("three: third", heavy.best(3, 1, 2), -9);
     }
 
+    private static void bestDown() {
+        ThoughtBalloon b = Check.told("w1 0;w2 0;p3 9 1;t30 0;t1 0;x20;");
+        b.begins(0, 0);
+        b.minutes(1);
+        check.due("down, out of a bad wind", b.best(1, 0, -1), 17);
+        check.due("by a lesser thought", b.best(1, 0, 0), 1);
+        check.due("at once", b.best(3, 0, 0), 1);
+        check.due("and stays there", b.best(4, 0, -1), 17);
+        ThoughtBalloon top = Check.told("w8 0;w9 6;p1 9 1;t30 0;t30 0;x10;");
+        top.begins(0, 0);
+        top.minutes(9);
+        check.due("at the top", top.best(4, 0, -1), 22);
+        check.due("held there", top.best(4, 0, 0), 1);
+        ThoughtBalloon zero = Check.told("w1 0;w2 0;w3 0;p0 9 1;t30 0;t1 0;x5;");
+        zero.begins(0, 0);
+        zero.minutes(1);
+        check.due("beyond 0 by all rows", zero.best(4, 0, -1), 0);
+        check.due("so none is begun", zero.best(4, 0, 0), -9);
+        zero.minutes(1);
+        check.due("lost at 0", zero.best(4, 0, -1), 0);
+    }
+
     private static void bestWrong() {
         ThoughtBalloon b = Check.told("p0 9 1;t1 0;");
+        check.due("a choice beyond the minutes, asked first", b.best(1, 1, 1), -9);
+        check.due("in no minute", b.best(0, 1, 0), -9);
         check.due("best(-1, 0, 0)", b.best(-1, 0, 0), -1);
         check.due("best(5, 0, 0)", b.best(5, 0, 0), -1);
         check.due("best(1, -1, 0)", b.best(1, -1, 0), -1);

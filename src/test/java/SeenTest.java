@@ -96,6 +96,7 @@ public final class SeenTest {
         check.due("no thoughts", Check.told("p3 9 1;").look(0), -9);
         ThoughtBalloon three = Check.told("p2 9 1;t3 0;t9 1;t8 2;");
         check.due("two of three, then each for itself", three.look(0), 7);
+        check.due("alike until the last minute", Check.told("p3 9 1;t30 0;t12 1;").look(0), 9);
     }
 
     private static void hears() {

@@ -135,11 +135,17 @@ public final class ShedsTest {
         fault("a1;", 0);
         fault("ww1 1;", 0);
         fault("wp", 0);
+        fault("wa1 1;", 0);
+        fault("wz1 1;", 0);
+        fault("w`1 1;", 1);
+        fault("w{1 1;", 1);
         fault("W1 1;", 0);
         fault("w1 1;;", 5);
         fault("w;", 1);
         fault("w1;", 2);
         fault("w1 1 1;", 5);
+        fault("w1 aa;", 3);
+        fault("x ww;", 2);
         fault("w1 1 x3;", 5);
         fault("wx", 0);
         fault("w x", 2);
