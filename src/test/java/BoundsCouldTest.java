@@ -167,6 +167,15 @@ public final class BoundsCouldTest extends Bounds {
         due(Check.told("w1 6;p0 9 1;t1 0;x38;"), 1, "best", 4, 1, -1);
         due(flown(WINDS + "p0 9 1;t1 0;t1 0;x5;", 9), 9, "best", 4, 1, -1);
         due(flown("w1 0;w2 0;p0 9 1;t1 0;x3;", 1), 0, "best", 1, 0, -1);
+        ThoughtBalloon down = flown("w1 0;w2 0;p3 9 1;t30 0;t1 0;x20;", 1);
+        due(down, 17, "best", 4, 0, -1);
+        due(down, 1, "best", 4, 0, 0);
+        ThoughtBalloon lower = flown("w1 6;w2 0;w3 0;p3 9 1;t30 0;t1 0;x20;", 2);
+        due(lower, 23, "best", 1, 0, -1);
+        due(lower, 1, "best", 1, 0, 0);
+        ThoughtBalloon top = flown("w8 0;w9 6;p1 9 1;t30 0;t30 0;x10;", 9);
+        due(top, 22, "best", 4, 0, -1);
+        due(top, 1, "best", 4, 0, 0);
         due(flown("w1 0;w2 0;p0 9 1;t1 0;x2;", 1), 0, "best", 1, 0, -1);
         due(flown("w1 0;w2 0;p0 9 1;t1 0;x2;", 1), 1, "best", 4, 1, -1);
     }

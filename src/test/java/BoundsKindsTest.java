@@ -217,6 +217,27 @@ public final class BoundsKindsTest extends Bounds {
         due(b, 10, "count", 5);
     }
 
+    @Says(promise = 27, words = "what may be UNDONE); nothing else.")
+    void backToDeedsThatWereUndone() {
+        for (int image = 0; image <= 1; image++) {
+            ThoughtBalloon b = BUSY.get();
+            ThoughtBalloon kept = BUSY.get();
+            b.keep(image);
+            kept.keep(image);
+            for (int i = 0; i < 4; i++) {
+                b.undo();
+            }
+            for (int i = 0; i < 12; i++) {
+                b.minutes(2);
+            }
+            b.keep(1 - image);
+            kept.keep(1 - image);
+            b.back(image);
+            b.keep(1 - image);
+            alike("each is known as it was", b, kept);
+        }
+    }
+
     @Says(promise = 27, words = "IMAGES are gone.)")
     void backWhenReadAnew() {
         ThoughtBalloon b = BUSY.get();

@@ -174,6 +174,8 @@ public final class BoundsSeenTest extends Bounds {
         due(Check.told("p0 9 1;t1 0;"), 1, "look", 0);
         due(Check.told("p0 9 1;t1 0;t2 0;"), 1, "look", 0);
         due(Check.told("p1 9 1;t1 0;t2 0;"), 1, "look", 0);
+        due(Check.told("p3 9 1;t30 0;t5 1;"), 2, "look", 0);
+        due(Check.told("p3 9 1;t8 4;t3 0;"), 1, "look", 0);
         due(Check.told("p3 9 1;t30 0;t11 1;"), 8, "look", 0);
         due(Check.told("p3 9 1;t30 0;t12 1;"), 9, "look", 0);
         due(Check.told("p3 9 1;t30 0;t13 1;"), 1, "look", 0);

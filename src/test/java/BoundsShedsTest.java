@@ -308,6 +308,8 @@ public final class BoundsShedsTest extends Bounds {
         }
         fault("wp", 0);
         fault("xw7;", 0);
+        fault("x w;", 2);
+        fault("x ww;", 2);
     }
 
     @Says(promise = 4, words = "a fourth of PEOPLE")
@@ -410,6 +412,26 @@ public final class BoundsShedsTest extends Bounds {
         }
         fault("x7   ", 5);
         fault("w1 1;".repeat(23) + "w1 1 ", 120);
+        fault("w1 1;".repeat(23) + "  x 4", 120);
+        fault("w1 1;".repeat(23) + "    w", 120);
+        fault(" ".repeat(118) + "xx", 118);
+    }
+
+    @Says(promise = 4, words = "the text's length, if it ends too early.")
+    void shedsEndsWhereALongerTextWas() {
+        for (String shorter : new String[] {"x4", "x", "x "}) {
+            ThoughtBalloon b = typed("x40;;wwww000;;;");
+            b.clear();
+            Check.type(b, shorter);
+            due(b, -10 - shorter.length(), "sheds");
+        }
+        ThoughtBalloon b = typed("x40;");
+        b.sheds();
+        Check.type(b, "x4");
+        due(b, -10 - 2, "sheds");
+        b.type(';');
+        due(b, 1, "sheds");
+        due(b, 4, "count", 2);
     }
 
     @Says(promise = 4, words = "(Read anew: as told, nothing SEEN, HEARD or to be UNDONE, IMAGES are gone.)")
@@ -420,6 +442,20 @@ public final class BoundsShedsTest extends Bounds {
         Check.type(b, text);
         due(b, 4, "sheds");
         alike("as one that was told just this", b, Check.told(text));
+        b = Check.told("w1 6;p0 9 1;p0 9 1;p0 9 1;t9 0;x40;");
+        b.begins(0, 0);
+        b.minutes(1);
+        due(b, 1, "now", 7);
+        Check.type(b, "p1 1 0;p2 2 0;t3 3;");
+        due(b, 3, "sheds");
+        alike("nobody is in, nothing is lost", b, Check.told("p1 1 0;p2 2 0;t3 3;"));
+        b = Check.told("p1 1 0;");
+        Check.type(b, "p1 1 1;p1 1 2;");
+        due(b, -10 - 12, "sheds");
+        b.clear();
+        Check.type(b, "p1 1 0;p1 1 0;");
+        due(b, 2, "sheds");
+        alike("what was told at fault is gone", b, Check.told("p1 1 0;p1 1 0;"));
         b = BUSY.get();
         b.clear();
         b.sheds();
