@@ -81,6 +81,14 @@ abstract class Bounds {
         return b;
     }
 
+    /** A new balloon in which person 0 has begun thought 0, so many minutes later. */
+    static ThoughtBalloon flown(String text, int minutes) {
+        ThoughtBalloon b = Check.told(text);
+        b.begins(0, 0);
+        pass(b, minutes);
+        return b;
+    }
+
     static void pass(ThoughtBalloon b, int minutes) {
         for (int left = minutes; left > 0; left -= 9) {
             b.minutes(Math.min(9, left));

@@ -17,14 +17,6 @@ public final class BoundsCouldTest extends Bounds {
         new BoundsCouldTest().run();
     }
 
-    /** A balloon in which person 0 has begun thought 0, so many minutes later. */
-    private static ThoughtBalloon flown(String text, int minutes) {
-        ThoughtBalloon b = Check.told(text);
-        b.begins(0, 0);
-        pass(b, minutes);
-        return b;
-    }
-
     /** A balloon in the last minute, in which nothing has been begun. */
     private static ThoughtBalloon late(String text) {
         return at(text, 99);

@@ -27,14 +27,6 @@ public final class BoundsDoneTest extends Bounds {
         new BoundsDoneTest().run();
     }
 
-    /** A balloon in which person 0 has begun thought 0, so many minutes later. */
-    private static ThoughtBalloon flown(String text, int minutes) {
-        ThoughtBalloon b = Check.told(text);
-        b.begins(0, 0);
-        pass(b, minutes);
-        return b;
-    }
-
     // ---- promise 8
 
     @Says(promise = 8, words = "BEGUN: HOLD.")
