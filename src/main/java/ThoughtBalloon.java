@@ -22,7 +22,7 @@ public final class ThoughtBalloon {
     private final Flight trial = new Flight();
     private final History history = new History();
     private final Image[] images = new Image[IMAGES];
-    private final Search search = new Search(told);
+    private final Search search = new Search();
     private final Odds chances = new Odds();
     private final Reports seen = new Reports();
     private final Reports heard = new Reports();
@@ -191,7 +191,7 @@ public final class ThoughtBalloon {
         if (!within(n, 0, MOST_TURNS) || !within(what, 0, 1) || !within(k, -1, MOST_TURNS - 1)) {
             return BAD;
         }
-        search.run(flight, n, what);
+        search.run(told, flight, n, what);
         if (k == -1) {
             return search.greatest;
         }
@@ -920,7 +920,6 @@ public final class ThoughtBalloon {
 
     /** Looks through all rows of turns for the first behind which the cell, or the height, is greatest. */
     private static final class Search {
-        private final Told told;
         /** The flight ahead of each turn, and behind the last. */
         private final Flight[] flights = new Flight[MOST_TURNS + 1];
         private final int[] row = new int[MOST_TURNS];
@@ -929,23 +928,22 @@ public final class ThoughtBalloon {
         private final int[][] reach = new int[MOST_TURNS + 1][TOP + 1];
         private int turns, what, greatest;
 
-        private Search(Told told) {
-            this.told = told;
+        private Search() {
             for (int i = 0; i <= MOST_TURNS; i++) {
                 flights[i] = new Flight();
             }
         }
 
-        private void run(Flight flight, int n, int cellOrHeight) {
+        private void run(Told told, Flight flight, int n, int cellOrHeight) {
             turns = Math.min(n, MOST_TURNS);
             what = cellOrHeight;
             greatest = -1;
-            fillReach();
+            fillReach(told);
             flights[0].copyFrom(flight);
-            tryTurns(0);
+            tryTurns(told, 0);
         }
 
-        private void fillReach() {
+        private void fillReach(Told told) {
             Arrays.fill(reach[0], 0);
             for (int left = 1; left <= MOST_TURNS; left++) {
                 for (int h = 0; h <= TOP; h++) {
@@ -958,7 +956,7 @@ public final class ThoughtBalloon {
         }
 
         /** Rows are tried in their order, so that only a greater end is worth more than the one found. */
-        private void tryTurns(int k) {
+        private void tryTurns(Told told, int k) {
             if (k > MOST_TURNS || bound(k) <= greatest) {
                 return;
             }
@@ -967,20 +965,20 @@ public final class ThoughtBalloon {
                 System.arraycopy(row, 0, found, 0, MOST_TURNS);
                 return;
             }
-            tryTurn(k, NONE, NONE);
+            tryTurn(told, k, NONE, NONE);
             if (flights[k].lost) {
                 return;
             }
             for (int p = 0; p < told.people; p++) {
                 for (int t = 0; t < told.thoughts; t++) {
                     if (flights[k].mayBegin(p, t) && bound(k) > greatest) {
-                        tryTurn(k, p, t);
+                        tryTurn(told, k, p, t);
                     }
                 }
             }
         }
 
-        private void tryTurn(int k, int p, int t) {
+        private void tryTurn(Told told, int k, int p, int t) {
             Flight next = flights[k + 1];
             next.copyFrom(flights[k]);
             row[k] = NONE;
@@ -989,7 +987,7 @@ public final class ThoughtBalloon {
                 row[k] = MOST_THOUGHTS * p + t;
             }
             told.passMinute(next);
-            tryTurns(k + 1);
+            tryTurns(told, k + 1);
         }
 
         /**

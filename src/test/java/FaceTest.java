@@ -1,4 +1,5 @@
 import java.io.IOException;
+import java.lang.reflect.Constructor;
 import java.lang.reflect.Field;
 import java.lang.reflect.Member;
 import java.lang.reflect.Method;
@@ -10,6 +11,7 @@ import java.util.Arrays;
 import java.util.HashSet;
 import java.util.List;
 import java.util.Set;
+import java.util.StringJoiner;
 import java.util.TreeSet;
 import java.util.regex.Matcher;
 import java.util.regex.Pattern;
@@ -27,6 +29,8 @@ public final class FaceTest {
     public static void main(String[] args) throws Exception {
         constants();
         members();
+        documentsFace();
+        constructors();
         names();
         words();
         neverFails(new ThoughtBalloon());
@@ -67,6 +71,39 @@ public final class FaceTest {
         check.due("few classes", c.getDeclaredClasses().length <= 11 ? 1 : 0, 1);
         for (Class<?> inside : c.getDeclaredClasses()) {
             check.due(inside + " is static", Modifier.isStatic(inside.getModifiers()) ? 1 : 0, 1);
+        }
+    }
+
+    /** The face line by line as the document writes it, parameters' types and all. */
+    private static void documentsFace() throws IOException {
+        Set<String> written = new TreeSet<>();
+        Matcher line = Pattern.compile("public (\\w+) (\\w+)\\(([^)]*)\\);").matcher(new Document().text());
+        while (line.find()) {
+            String types = line.group(3).replaceAll("(\\w+) \\w+", "$1").replace(" ", "");
+            written.add(line.group(1) + " " + line.group(2) + "(" + types + ")");
+        }
+        Set<String> declared = new TreeSet<>();
+        for (Method method : ThoughtBalloon.class.getDeclaredMethods()) {
+            if (Modifier.isPublic(method.getModifiers())) {
+                StringJoiner types = new StringJoiner(",", "(", ")");
+                for (Class<?> type : method.getParameterTypes()) {
+                    types.add(type.getName());
+                }
+                check.due(method + " is not static", Modifier.isStatic(method.getModifiers()) ? 1 : 0, 0);
+                declared.add(method.getReturnType() + " " + method.getName() + types);
+            }
+        }
+        check.due("the document's face " + written + ", the class's " + declared, written.equals(declared) ? 1 : 0, 1);
+    }
+
+    /** Rule 12: a constructor that takes nothing can be handed nothing of the balloon that is being made. */
+    private static void constructors() {
+        check.due("the balloon's takes nothing",
+                ThoughtBalloon.class.getDeclaredConstructors()[0].getParameterCount(), 0);
+        for (Class<?> inside : ThoughtBalloon.class.getDeclaredClasses()) {
+            for (Constructor<?> constructor : inside.getDeclaredConstructors()) {
+                check.due(constructor + " takes nothing", constructor.getParameterCount(), 0);
+            }
         }
     }
 
